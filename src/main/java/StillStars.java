@@ -185,11 +185,13 @@ public final class StillStars {
         if (!isPart(part)) {
             return BAD - FAR;
         }
+        findBends();
         fitWholes();
         return fit.unitsOf(part);
     }
 
     public long off() {
+        findBends();
         fitWholes();
         return fit.squares();
     }
@@ -406,7 +408,6 @@ public final class StillStars {
     }
 
     private void fitWholes() {
-        findBends();
         for (int p = 0; p < parts.count(); p++) {
             fit.wish(p, bends.rounded(p));
         }

@@ -218,8 +218,8 @@ public final class BendsTest {
     }
     due.is("16 nothing off", x.off(), 0);
     x.set(4, 15);
-    due.is("15 limit", x.nearest(2), 15);
     due.is("16 limit", x.off(), 25);
+    due.is("15 limit", x.nearest(2), 15);
     x.set(5, 0);
     // all alike: 20 by 3 is nearest to 7
     for (int p = 0; p < 3; p++) {

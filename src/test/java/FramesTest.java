@@ -63,8 +63,10 @@ public final class FramesTest {
     StillStars x = new StillStars();
     Due.allLost(x, 4, false);
     due.is("19 open stays", x.frames(100), 0);
+    x.units(0, 9);
     x.start();
     due.is("19 frames of open do not count", x.frames(2), 1);
+    due.is("19 units stay in seek", x.state(0), 9);
     Due.allLost(x, 4, true);
     due.is("19 one between", x.frames(1), 1);
     Due.allLost(x, 4, false);
@@ -73,6 +75,7 @@ public final class FramesTest {
     x.start();
     due.is("19 so does start", x.frames(2), 1);
     due.is("19 the third", x.frames(1), 2);
+    due.is("19 units stay in it too", x.state(0), 9);
   }
 
   private static void held() {
@@ -109,6 +112,12 @@ public final class FramesTest {
     z.set(3, 0);
     z.frames(9);
     due.is("19 no gain", z.state(0), 3);
+    StillStars v = heldWith(99);
+    v.set(4, 60);
+    v.set(3, 100);
+    v.units(0, 40);
+    v.frames(1);
+    due.is("19 40 less 99", v.state(0), -59);
     // UNITS that are not ALLOWED become the NEAREST row, with nothing to bend too
     StillStars w = new StillStars();
     Due.allLost(w, 4, false);
@@ -178,6 +187,12 @@ public final class FramesTest {
     x.frames(1 + 15);
     x.light(0, 3, 255);
     due.is("19 the fifth good one is the 20th", x.frames(5), 2);
+    x.light(0, 3, 0);
+    x.frames(1);
+    x.units(0, 8);
+    x.light(0, 3, 255);
+    due.is("19 held once more", x.frames(5), 2);
+    due.is("19 units stay through it", x.state(0), 8);
     StillStars y = heldWith(10);
     y.frames(1);
     y.light(0, 3, 0);

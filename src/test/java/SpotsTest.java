@@ -157,6 +157,13 @@ public final class SpotsTest {
     due.is("4 byte 171", x.light(0, 15, 171), 171);
     due.is("4 ints", x.board(2, 2, 2, 0), 1);
     due.is("4 int 151", x.light(2, 15, 151), 151);
+    x.item(0, 1, 2, 0);
+    x.item(0, 1, 3, 255);
+    due.is("4 the edges", x.board(1, 0, 1, 2), 1);
+    due.is("4 0", x.light(1, 0, 0), 0);
+    due.is("4 255", x.light(1, 1, 0), 255);
+    due.is("4 board anew", x.board(1, 0, 1, 1), 1);
+    x.light(1, 1, 12);
     x.item(1, 0, 2, -1);
     due.is("4 byte -1", x.board(0, 1, 0, 2), 1);
     due.is("4 byte -1 is 255", x.light(0, 0, 255), 255);

@@ -117,6 +117,14 @@ public final class SteadyTest {
 
   private static void gains() {
     StillStars x = new StillStars();
+    // D is 1 at first, and so is N
+    Due.row(x, 0, 2, -1);
+    x.loop(1, 0, 2, 0, 1);
+    due.is("24 100 - g", x.unsteady(0, 100), 100);
+    x = new StillStars();
+    Due.row(x, 0, 2, -1);
+    x.loop(0, 0, 2, 0, 1);
+    due.is("24 g - 100", x.unsteady(0, 100), 100);
     int[] bad = {-1, 101, Integer.MIN_VALUE, Integer.MAX_VALUE};
     for (int gain : bad) {
       due.is("25 bad " + gain, x.steady(gain), -1);
