@@ -16,6 +16,7 @@ public final class BendsTest {
     whole();
     nearest();
     nearestTies();
+    nearestWidest();
     nearestByEveryRow();
     due.end();
   }
@@ -88,6 +89,11 @@ public final class BendsTest {
     isBend("13 part 2 with 3", x, 2, 10, 1);
     isBend("13 part 3 follows 2", x, 3, 10, 1);
     isBend("13 part 0 now", x, 0, -10, 1);
+    x.table(1, 2, 4);
+    // 11 b = 70, 3 b - 3 a = 60
+    isBend("13 a fraction", x, 2, 70, 11);
+    isBend("13 a dead one's fraction", x, 3, 70, 11);
+    isBend("13 and part 0's", x, 1, -150, 11);
   }
 
   private static void seen() {
@@ -249,6 +255,8 @@ public final class BendsTest {
     // (6, 8) 5, (7, 9) 5: the first counts most
     due.is("15 of (6, 8) and (7, 9)", x.nearest(0), 6);
     due.is("15 the second of them", x.nearest(1), 8);
+    slopes(x, -5, -20);
+    due.is("16 further below 0", x.off(), 85);
     slopes(x, -5, -10);
     due.is("15 of (-7, -9) and (-6, -8)", x.nearest(0), -7);
     due.is("15 below 0", x.nearest(1), -9);
@@ -262,6 +270,23 @@ public final class BendsTest {
     x.set(5, 119);
     due.is("15 of (59, -60) and (60, -59)", x.nearest(0), 59);
     due.is("15 and the second", x.nearest(1), -60);
+  }
+
+  private static void nearestWidest() {
+    StillStars x = new StillStars();
+    x.mirror(8, 5);
+    x.set(4, 60);
+    x.set(5, 120);
+    int[] slopes = {3000, -3000, 60, -60, 61};
+    int[] row = {60, -60, 60, -60, 60};
+    slopes(x, slopes);
+    for (int p = 0; p < 5; p++) {
+      x.table(p, p, 1);
+    }
+    due.is("16 five parts", x.off(), 2L * 2940 * 2940 + 1);
+    for (int p = 0; p < 5; p++) {
+      due.is("15 five parts " + p, x.nearest(p), row[p]);
+    }
   }
 
   /** Looks at every row in order, as the document tells it. */

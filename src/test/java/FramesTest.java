@@ -17,6 +17,7 @@ public final class FramesTest {
     shed();
     log();
     framesRefuses();
+    fiveParts();
     manyFramesAsOneByOne();
     due.end();
   }
@@ -320,6 +321,29 @@ public final class FramesTest {
     due.is("23 it keeps what was", x.log(0, 2), -30);
     x.shed();
     due.is("23 through shed too", x.log(0, 2), -30);
+  }
+
+  private static void fiveParts() {
+    StillStars x = new StillStars();
+    x.mirror(8, 5);
+    for (int p = 0; p < 5; p++) {
+      x.table(p, p, 1);
+    }
+    for (int s = 0; s < 8; s++) {
+      Due.shine(x, s, 3);
+      x.rest(s, 3000 - 2 * s);
+    }
+    x.start();
+    x.frames(5);
+    for (int p = 0; p < 5; p++) {
+      due.is("19 of five " + p, x.state(p), -2 * p);
+    }
+    due.is("23 the sum of five", x.log(0, 2), -20);
+    due.is("23 the sum ahead", x.log(1, 2), -10);
+    due.is("22 of five", x.shed(), -4);
+    for (int p = 0; p < 5; p++) {
+      due.is("22 of five " + p, x.state(p), 4 - 2 * p);
+    }
   }
 
   private static void framesRefuses() {

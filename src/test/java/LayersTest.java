@@ -117,6 +117,10 @@ public final class LayersTest {
     x.sheet(0, 2, 32);
     x.sheet(1, 2, 32);
     due.is("30 all alike", x.guess(0, 1, 2), 0);
+    x.item(1, 2, 0, 5);
+    due.is("30 all off by one item", x.guess(0, 1, 2), 0);
+    due.is("30 the other way too", x.guess(1, 0, 2), 0);
+    x.item(1, 2, 0, 0);
     for (int i = 0; i < 32; i += 8) {
       x.item(0, 2, i, 9);
       x.item(1, 2, i + 3, 9);

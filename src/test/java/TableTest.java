@@ -9,6 +9,7 @@ public final class TableTest {
     pokesAdd();
     pokeRefuses();
     pokeLanes();
+    pokeMost();
     told();
     due.end();
   }
@@ -122,6 +123,17 @@ public final class TableTest {
     due.is("9 not: a small int", x.poke(0, 10, 0, 2, 1), -2);
     x.sheet(0, 2, 0);
     due.is("9 an empty row", x.poke(0, 10, 0, 2, 0), -13);
+  }
+
+  private static void pokeMost() {
+    StillStars x = new StillStars();
+    x.mirror(8, 5);
+    Due.row(x, 0, 2, 1, 2, 3, 4, 5, 6, 7, 8);
+    due.is("9 eight spots", x.poke(4, 1, 0, 2, 0), 1);
+    due.is("9 not from 1", x.poke(4, 1, 0, 2, 1), -13);
+    for (int s = 0; s < 8; s++) {
+      due.is("9 of eight " + s, x.told(s, 4, 0), s + 1);
+    }
   }
 
   private static void told() {
