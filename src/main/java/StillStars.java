@@ -423,7 +423,9 @@ public final class StillStars {
         boolean moved = false;
         for (int p = 0; p < parts.count(); p++) {
             int now = fit.unitsOf(p);
-            moved |= parts.swapUnits(p, now) != now;
+            if (parts.swapUnits(p, now) != now) {
+                moved = true;
+            }
         }
         return moved;
     }
@@ -498,7 +500,9 @@ public final class StillStars {
         void lay(int sheet, int lane, int n) {
             lanes[sheet] = lane;
             lengths[sheet] = n;
-            Arrays.fill(items, sheet * MOST_ITEMS, sheet * MOST_ITEMS + n, 0);
+            for (int i = 0; i < n; i++) {
+                items[sheet * MOST_ITEMS + i] = 0;
+            }
         }
 
         int takeAway(int sheet) {
