@@ -22,6 +22,10 @@ final class Due {
     is(what, is ? 1 : 0, 1);
   }
 
+  int asked() {
+    return asked;
+  }
+
   boolean anyWrong() {
     return wrong != 0;
   }

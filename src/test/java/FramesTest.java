@@ -371,7 +371,8 @@ public final class FramesTest {
           state = y.frames(1);
         }
         due.is("19 at once " + slope, x.frames(n), state);
-        for (int i = 0; i < 30; i++) {
+        // every other line, so that all stays within an object's 512 calls
+        for (int i = turn % 2; i < 30; i += 2) {
           for (int what = 0; what < 3; what++) {
             due.is("19 log " + slope + " " + i + " " + what, x.log(i, what), y.log(i, what));
           }

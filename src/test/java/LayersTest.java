@@ -101,8 +101,8 @@ public final class LayersTest {
   }
 
   private static void guess() {
-    StillStars x = new StillStars();
     for (int shift = 0; shift < 32; shift++) {
+      StillStars x = new StillStars();
       rows(x, shift % 3, shift);
       due.is("30 shift " + shift, x.guess(0, 1, shift % 3), shift);
       due.is("30 the other way " + shift, x.guess(1, 0, shift % 3), (32 - shift) % 32);

@@ -28,9 +28,12 @@ public final class ModelTest {
     due.end();
   }
 
+  /** What an object answers behind its last call is free. */
   private void is(String call, long got, long want) {
     calls++;
-    due.is(run + calls + ": " + call, got, want);
+    if (calls <= CALLS) {
+      due.is(run + calls + ": " + call, got, want);
+    }
   }
 
   /** Mostly within, often at an edge, now and then just beyond or far off. */
