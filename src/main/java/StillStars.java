@@ -343,7 +343,7 @@ public final class StillStars {
         return best;
     }
 
-    // ---- 5 sheets
+    // ---- 5 sheets 0 .. 3: nothing (at first), or a row of a LANE: 0 bytes, 1 shorts, 2 ints, of 0 to 40 items
 
     public int sheet(int sheet, int lane, int n) {
         if (!isSheet(sheet) || !isLane(lane) || n > MOST_ITEMS) {

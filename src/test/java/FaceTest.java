@@ -27,11 +27,34 @@ public final class FaceTest {
   private static final int[] VALUES = {-1, -2, -3, -4, -11, -12, -13, -14};
 
   public static void main(String[] args) throws Exception {
+    document();
     face();
     constants();
     inside();
     text();
     due.end();
+  }
+
+  /** What this test looks for is what the document writes, where that is at hand. */
+  private static void document() throws Exception {
+    Path file = Path.of("../shared/DOC.md");
+    if (!Files.isReadable(file)) {
+      System.out.println("no document at " + file + ": the face is not looked up");
+      return;
+    }
+    Matcher block = Pattern.compile("(?s)## The public face\\s+```java\n(.*?)```").matcher(Files.readString(file, StandardCharsets.UTF_8));
+    due.holds("the document has a face", block.find());
+    Set<String> methods = new TreeSet<>();
+    Matcher method = Pattern.compile("public (int|long) (\\w+)\\(([^)]*)\\);").matcher(block.group(1));
+    while (method.find()) {
+      methods.add(method.group(1) + " " + method.group(2) + "(" + method.group(3).replaceAll(" \\w+(?=,|$)", "").replace(" ", "") + ")");
+    }
+    due.holds("the document's methods are " + methods, methods.equals(new TreeSet<>(Set.of(METHODS))));
+    for (int i = 0; i < CONSTANTS.length; i++) {
+      due.holds("the document has " + CONSTANTS[i], block.group(1).contains(" " + CONSTANTS[i] + " = " + VALUES[i]));
+    }
+    // the class, the constants' line, the constructor and the methods: nothing else is public
+    due.is("public lines", block.group(1).split("public ").length - 1, METHODS.length + 3);
   }
 
   private static void face() {
